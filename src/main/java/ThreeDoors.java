@@ -90,7 +90,9 @@ public final class ThreeDoors {
             return BAD;
         }
         int was = town.become(what, number, v);
-        changes.note(what, number, was, v);
+        if (was != v) {
+            changes.note(what, number, was, v);
+        }
         return was;
     }
 

@@ -187,6 +187,10 @@ public final class ModelTest {
             int what = about(0, 2);
             int number = about(0, what == 2 ? model.wall.size() - 1 : model.price.size() - 1);
             int v = about(0, what == 1 ? 9 : 99);
+            if (random.nextInt(4) == 0) {
+                int is = model.of(number, what == 2 ? 21 : what);
+                v = is < 0 ? v : is;
+            }
             due("mend(" + number + ", " + what + ", " + v + ")",
                 real.mend(number, what, v), model.mend(number, what, v));
         }
@@ -550,6 +554,7 @@ public final class ModelTest {
                 || what == 2 && in(number, 0, wall.size() - 1) && in(v, 0, 99);
             if (!good) return -1;
             int was = set(number, what, v);
+            if (was == v) return was;
             undo.add(new int[] {number, what, was, v});
             redo.clear();
             if (undo.size() > 40) undo.remove(0);

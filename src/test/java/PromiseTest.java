@@ -302,6 +302,51 @@ public final class PromiseTest {
             due(x.of(0, 0), 61 - k);
         }
         forgotten();
+        unchanged();
+    }
+
+    /** What becomes what it was is no change: nothing more may be undone, and what may be done again stays so. */
+    private static void unchanged() {
+        promise(27);
+        ThreeDoors x = path(2);
+        x.wall(1, 5);
+        int[][] same = {{0, 0, 10}, {1, 1, 0}, {0, 2, 5}};
+        for (int[] mend : same) {
+            due(x.mend(mend[0], mend[1], mend[2]), mend[2]);
+            due(x.count(4), 0);
+            due(x.undo(), -5);
+        }
+        x.mend(0, 0, 11);
+        x.mend(0, 0, 11);
+        x.mend(1, 1, 3);
+        x.mend(0, 2, 6);
+        due(x.count(4), 3);
+        promise(28);
+        due(x.undo(), 2);
+        due(x.undo(), 1);
+        for (int[] mend : new int[][] {{0, 0, 11}, {1, 1, 0}, {0, 2, 5}}) {
+            due(x.mend(mend[0], mend[1], mend[2]), mend[2]);
+        }
+        due(x.redo(), 1);
+        due(x.mend(1, 1, 3), 3);
+        due(x.redo(), 0);
+        due(x.redo(), -5);
+        due(x.of(0, 21), 6);
+        promise(27);
+        due(x.undo(), 2);
+        due(x.undo(), 1);
+        due(x.undo(), 0);
+        due(x.of(0, 0), 10);
+        due(x.undo(), -5);
+        x = path(1);
+        for (int k = 0; k < 40; k++) {
+            x.mend(0, 0, 20 + k);
+        }
+        due(x.mend(0, 0, 59), 59);
+        for (int k = 39; k >= 0; k--) {
+            due(x.undo(), k);
+        }
+        due(x.of(0, 0), 10);
     }
 
     /** More changes than are kept, of all three sorts: the first ones stay, all others go and come in turn. */
