@@ -9,11 +9,13 @@ import java.util.TreeSet;
  * roundabout way: distances by relaxing, every laying tried, the law read by backtracking, bodies as real classes.
  */
 public final class ModelTest {
+    // an object is used for at most 512 calls, and a step takes up to 141 (a law of 125 bytes, of 14 doors)
+    private static final int LAST_STEP = 512 - 141;
     private static int wrong = 0;
     private static long calls = 0;
 
     public static void main(String[] args) {
-        for (int seed = 1; seed <= 400; seed++) {
+        for (int seed = 1; seed <= 1500; seed++) {
             new Run(seed).go();
         }
         System.out.println(wrong == 0 ? "model: " + calls + " answers are as due" : "model: " + wrong + " are not");
@@ -40,7 +42,7 @@ public final class ModelTest {
         void go() {
             int before = wrong;
             setUp();
-            for (int k = 0; k < 330 && wrong == before; k++) {
+            while (told.size() <= LAST_STEP && wrong == before) {
                 step();
             }
             if (wrong != before) {

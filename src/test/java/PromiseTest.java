@@ -301,7 +301,6 @@ public final class PromiseTest {
             due(x.redo(), k);
             due(x.of(0, 0), 61 - k);
         }
-        forgotten();
         unchanged();
     }
 
@@ -347,39 +346,6 @@ public final class PromiseTest {
             due(x.undo(), k);
         }
         due(x.of(0, 0), 10);
-    }
-
-    /** More changes than are kept, of all three sorts: the first ones stay, all others go and come in turn. */
-    private static void forgotten() {
-        ThreeDoors x = path(2);
-        x.wall(1, 0);
-        x.wall(1, 0);
-        int[][] was = new int[51][];
-        was[0] = prices(x);
-        for (int k = 0; k < 50; k++) {
-            x.mend(k / 3 % 2, k % 3, k % 3 == 1 ? 1 + k % 9 : 40 + k);
-            was[k + 1] = prices(x);
-        }
-        for (int k = 49; k >= 10; k--) {
-            due(x.undo(), k - 10);
-            same(prices(x), was[k]);
-        }
-        due(x.undo(), -5);
-        for (int k = 10; k < 50; k++) {
-            due(x.redo(), 49 - k);
-            same(prices(x), was[k + 1]);
-        }
-        due(x.redo(), -5);
-    }
-
-    private static int[] prices(ThreeDoors x) {
-        return new int[] {x.of(0, 0), x.of(1, 0), x.of(0, 1), x.of(1, 1), x.of(0, 21), x.of(1, 21)};
-    }
-
-    private static void same(int[] got, int[] want) {
-        for (int k = 0; k < want.length; k++) {
-            due(got[k], want[k]);
-        }
     }
 
     private static void reachIs(String text, int want) {
