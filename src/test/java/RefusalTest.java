@@ -49,7 +49,8 @@ public final class RefusalTest {
             while (is.get(k).equals(was.get(k))) {
                 k++;
             }
-            System.out.println(told + " changed something: answer " + k + " behind it is " + is.get(k) + ", not " + was.get(k));
+            System.out.println(told + " changed something: answer " + k + " behind it is " + is.get(k) + ", not "
+                + was.get(k));
         }
     }
 
@@ -272,7 +273,8 @@ public final class RefusalTest {
         for (int v : new int[] {-1, 10, LEAST, GREATEST}) {
             answers(some, BAD, "near(" + v + ")", x -> x.near(v));
         }
-        int[][] mends = {{0, 0, -1}, {0, 0, 100}, {7, 0, 1}, {-1, 0, 1}, {0, 1, -1}, {0, 1, 10}, {7, 1, 1}, {-1, 1, 1},
+        int[][] mends = {{0, 0, -1}, {0, 0, 100}, {7, 0, 1}, {-1, 0, 1}, {0, 1, -1}, {0, 1, 10}, {7, 1, 1}, {-1, 1,
+            1},
             {0, 2, -1}, {0, 2, 100}, {2, 2, 1}, {-1, 2, 1}, {0, 3, 1}, {0, -1, 1}, {LEAST, 0, 1}, {GREATEST, 2, 1}};
         for (int[] told : mends) {
             answers(some, BAD, "mend(" + told[0] + ", " + told[1] + ", " + told[2] + ")",
@@ -284,11 +286,13 @@ public final class RefusalTest {
         for (int ab : new int[] {7, 700, 707, -1, LEAST, GREATEST}) {
             answers(some, BAD, "far(" + ab + ")", x -> x.far(ab));
         }
-        int[][] ofs = {{7, 0}, {-1, 0}, {7, 3}, {5, 10}, {-1, 10}, {2, 20}, {2, 21}, {-1, 21}, {0, 4}, {0, 11}, {0, 22}};
+        int[][] ofs = {{7, 0}, {-1, 0}, {7, 3}, {5, 10}, {-1, 10}, {2, 20}, {2, 21}, {-1, 21}, {0, 4}, {0, 11}, {0,
+            22}};
         for (int[] told : ofs) {
             answers(some, BAD, "of(" + told[0] + ", " + told[1] + ")", x -> x.of(told[0], told[1]));
         }
-        int[][] joins = {{6, 0, 1}, {-1, 0, 1}, {0, 0, 0}, {0, 0, 31}, {0, 0, -1}, {1, 0, 0}, {2, 0, 31}, {3, 0, 0}, {6, 0, 0},
+        int[][] joins = {{6, 0, 1}, {-1, 0, 1}, {0, 0, 0}, {0, 0, 31}, {0, 0, -1}, {1, 0, 0}, {2, 0, 31}, {3, 0, 0},
+            {6, 0, 0},
             {0, -1, 0}, {6, -1, 1}};
         for (int[] told : joins) {
             answers(some, BAD, "joins(" + told[0] + ", " + told[1] + ", " + told[2] + ")",
@@ -379,10 +383,12 @@ public final class RefusalTest {
 
         int may = some().best(0);
         int well = Integer.numberOfTrailingZeros(may);
-        int[][] bad = {{128 | may, well, 0}, {-1, well, 0}, {may, well, 2}, {may, well, -1}, {may, -1, 0}, {may, 7, 0}, {may, 32 + well, 0},
+        int[][] bad = {{128 | may, well, 0}, {-1, well, 0}, {may, well, 2}, {may, well, -1}, {may, -1, 0}, {may, 7,
+            0}, {may, 32 + well, 0},
             {may & ~(1 << well), well, 0}, {0, 0, 0}, {0, 0, 2}, {1, 0, 2}, {2, 0, 0}};
         for (int[] told : bad) {
-            answers(some, BAD, "dry(" + told[0] + ", " + told[1] + ", " + told[2] + ")", x -> x.dry(told[0], told[1], told[2]));
+            answers(some, BAD, "dry(" + told[0] + ", " + told[1] + ", " + told[2] + ")", x -> x.dry(told[0], told[1],
+                told[2]));
         }
         answers(some, STATE, "dry(1, 0, 0) of what may not be", x -> x.dry(1, 0, 0));
         answers(some, STATE, "dry(1, 0, 1) of what may not be", x -> x.dry(1, 0, 1));
@@ -420,7 +426,8 @@ public final class RefusalTest {
             answers(some, BAD, "turn(" + told[0] + ", " + told[1] + ")", x -> x.turn(told[0], told[1]));
         }
         // shelves: 0 bytes, 1 ints, 2 a body, 3 nothing, 4 bytes, 5 booleans
-        int[][] stood = {{6, 1, BAD}, {-1, 1, BAD}, {0, 128, BAD}, {1, 128, BAD}, {2, -1, BAD}, {3, 128, BAD}, {6, 128, BAD},
+        int[][] stood = {{6, 1, BAD}, {-1, 1, BAD}, {0, 128, BAD}, {1, 128, BAD}, {2, -1, BAD}, {3, 128, BAD}, {6,
+            128, BAD},
             {3, 0, MISSING}, {3, 127, MISSING}, {1, 0, UNLIKE}, {1, 127, UNLIKE}, {2, 1, UNLIKE}, {5, 127, UNLIKE},
             {0, 63, NO_PLACE}, {0, 127, NO_PLACE}, {4, 15, NO_PLACE}};
         for (int[] told : stood) {
@@ -447,7 +454,8 @@ public final class RefusalTest {
 
     private static void shelvesCalls() {
         Supplier<ThreeDoors> some = RefusalTest::some;
-        int[][] rows = {{6, 0, 1, BAD}, {-1, 0, 1, BAD}, {0, 5, 1, BAD}, {0, -1, 1, BAD}, {0, 0, 61, BAD}, {0, 5, 61, BAD},
+        int[][] rows = {{6, 0, 1, BAD}, {-1, 0, 1, BAD}, {0, 5, 1, BAD}, {0, -1, 1, BAD}, {0, 0, 61, BAD}, {0, 5, 61,
+            BAD},
             {6, 0, -1, BAD}, {0, 5, -1, BAD}, {0, -1, -1, BAD}, {0, 0, GREATEST, BAD}, {0, 0, -1, BELOW_ZERO},
             {2, 0, -1, BELOW_ZERO}, {3, 4, -1, BELOW_ZERO}, {5, 3, LEAST, BELOW_ZERO}};
         for (int[] told : rows) {
@@ -459,7 +467,8 @@ public final class RefusalTest {
             {5, 6, NO_PLACE}, {0, 60, NO_PLACE}, {0, LEAST, NO_PLACE}, {0, GREATEST, NO_PLACE}};
         for (int[] told : puts) {
             answers(some, told[2], "put(" + told[0] + ", " + told[1] + ", 77)", x -> x.put(told[0], told[1], 77));
-            answers(some, Long.MIN_VALUE, "element(" + told[0] + ", " + told[1] + ")", x -> x.element(told[0], told[1]));
+            answers(some, Long.MIN_VALUE, "element(" + told[0] + ", " + told[1] + ")", x -> x.element(told[0],
+                told[1]));
         }
     }
 
@@ -471,16 +480,20 @@ public final class RefusalTest {
             {3, -1, 0, 9, -1, MISSING}, {2, 0, 0, 0, 1, UNLIKE}, {0, 0, 2, 0, 1, UNLIKE}, {2, 0, 2, 0, 1, UNLIKE},
             {0, 0, 1, 0, 1, UNLIKE}, {1, 0, 0, 0, 1, UNLIKE}, {0, 0, 5, 0, 1, UNLIKE}, {5, 0, 0, 0, 1, UNLIKE},
             {0, -1, 1, 0, 1, UNLIKE}, {0, 0, 1, 9, 9, UNLIKE}, {2, 0, 0, 0, -1, UNLIKE}, {0, 0, 1, 0, 0, UNLIKE},
-            {0, -1, 4, 0, 1, NO_PLACE}, {0, 0, 4, -1, 1, NO_PLACE}, {0, 0, 4, 0, -1, NO_PLACE}, {0, 0, 4, 0, 4, NO_PLACE},
-            {0, 3, 4, 0, 3, NO_PLACE}, {0, 0, 4, 2, 2, NO_PLACE}, {0, 6, 4, 0, 0, NO_PLACE}, {0, 0, 4, 4, 0, NO_PLACE},
-            {0, 1, 0, 0, 5, NO_PLACE}, {0, GREATEST, 4, GREATEST, GREATEST, NO_PLACE}, {0, 1, 4, 1, GREATEST, NO_PLACE},
+            {0, -1, 4, 0, 1, NO_PLACE}, {0, 0, 4, -1, 1, NO_PLACE}, {0, 0, 4, 0, -1, NO_PLACE}, {0, 0, 4, 0, 4,
+                NO_PLACE},
+            {0, 3, 4, 0, 3, NO_PLACE}, {0, 0, 4, 2, 2, NO_PLACE}, {0, 6, 4, 0, 0, NO_PLACE}, {0, 0, 4, 4, 0,
+                NO_PLACE},
+            {0, 1, 0, 0, 5, NO_PLACE}, {0, GREATEST, 4, GREATEST, GREATEST, NO_PLACE}, {0, 1, 4, 1, GREATEST,
+                NO_PLACE},
             {0, LEAST, 4, 0, LEAST, NO_PLACE}};
         for (int[] told : shifts) {
-            answers(some, told[5], "shift(" + told[0] + ", " + told[1] + ", " + told[2] + ", " + told[3] + ", " + told[4] + ")",
-                x -> x.shift(told[0], told[1], told[2], told[3], told[4]));
+            String words = "shift(" + told[0] + ", " + told[1] + ", " + told[2] + ", " + told[3] + ", " + told[4] + ")";
+            answers(some, told[5], words, x -> x.shift(told[0], told[1], told[2], told[3], told[4]));
         }
         answers(some, 0, "shift(0, 5, 4, 3, 0) of no elements", x -> x.shift(0, 5, 4, 3, 0));
-        int[][] takes = {{6, 0, BAD}, {-1, 0, BAD}, {2, 8, BAD}, {2, -1, BAD}, {3, 8, BAD}, {0, -1, BAD}, {3, 0, MISSING},
+        int[][] takes = {{6, 0, BAD}, {-1, 0, BAD}, {2, 8, BAD}, {2, -1, BAD}, {3, 8, BAD}, {0, -1, BAD}, {3, 0,
+            MISSING},
             {3, 7, MISSING}, {0, 0, UNLIKE}, {1, 7, UNLIKE}, {2, 1, UNLIKE}, {2, 4, UNLIKE}};
         for (int[] told : takes) {
             answers(some, told[2], "taken(" + told[0] + ", " + told[1] + ")", x -> x.taken(told[0], told[1]));
@@ -514,7 +527,8 @@ public final class RefusalTest {
         x.breaks(0);
         x.dry(may, 2, 0);
         x.grow();
-        if (x.far(6) != far || x.judge(may) != judged || x.of(2, 3) != reach || x.goes(may, 6) != some().goes(may, 6)) {
+        if (x.far(6) != far || x.judge(may) != judged || x.of(2, 3) != reach || x.goes(may, 6) != some().goes(may,
+            6)) {
             wrong++;
             System.out.println("far, judge, of or goes answer otherwise behind breaks, dry and grow");
         }
