@@ -54,6 +54,19 @@ public final class LayingBoundaryTest extends Boundary {
         due(x.judge(1 << 3 | 1 << 4 | 1 << 5 | 1 << 12), 100 + 16 * 3 + 4);
         due(x.judge(1 << 13), NOT);
 
+        sentence("(any told bits): OLD wells that are not told are none, rock and PRICE do not count");
+        x = path(5);
+        x.mend(0, 0, 0);
+        x.old(16);
+        due(x.judge(1), 4);
+        due(x.judge(1 | 16), NOT);
+        due(x.judge(4), NOT);
+        due(x.goes(1, 4), 0);
+        due(x.worth(1, 0), 5);
+        due(x.steps(1, 0), 10);
+        due(x.missed(4), 0);
+        due(x.missed(1), STATE);
+
         sentence("MAY BE: LAWFUL, all OLD wells in it, no other one in rock");
         x = path(2, "3", 0);
         x.mend(0, 0, 0);

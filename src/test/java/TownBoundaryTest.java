@@ -193,7 +193,6 @@ public final class TownBoundaryTest extends Boundary {
     private static void changes() {
         sentence("CHANGES can be UNDONE, the latest first: how many may still be. STATE: none.");
         ThreeDoors x = path(1);
-        x.wall(1, 1);
         x.mend(0, 0, 11);
         x.mend(0, 1, 5);
         x.mend(0, 0, 12);
@@ -237,8 +236,50 @@ public final class TownBoundaryTest extends Boundary {
         due(x.redo(), 0);
         due(x.of(0, 1), 9);
 
+        x = path(2);
+        x.wall(1, 5);
+        due(x.mend(0, 2, 5), 5);
+        due(x.undo(), STATE);
+
+        noOtherChangeCame();
         keptChanges();
         keptChangesOfAllSorts();
+    }
+
+    /** What is no change of a price, year or cost can't be undone, and does not stand ahead of what may be done again. */
+    private static void noOtherChangeCame() {
+        sentence("CHANGES (PRICE, YEAR of DOORS; COST of WALLS): nothing else is one");
+        ThreeDoors x = path(2);
+        x.wall(1, 5);
+        x.mend(1, 0, 30);
+        x.mend(0, 2, 6);
+        due(x.undo(), 1);
+        x.door(20, 3);
+        x.join(102);
+        x.wall(2, 7);
+        x.old(1);
+        x.near(2);
+        fed(x, "d+1");
+        bytes(x, 0, 0, 2);
+        x.joins(0, 0, 1);
+        x.body(1);
+        x.act(0, 1, 2);
+        due(x.mend(0, 2, 100), BAD);
+        due(x.mend(3, 0, 1), BAD);
+        due(x.count(4), 1);
+        due(x.redo(), 0);
+        due(x.of(0, 21), 6);
+        due(x.undo(), 1);
+        due(x.undo(), 0);
+        due(x.undo(), STATE);
+        due(x.count(0), 3);
+        due(x.count(1), 3);
+        due(x.count(2), 2);
+        due(x.old(0), 1);
+        due(x.near(0), 2);
+        due(x.of(1, 3), 2);
+        due(x.of(1, 0), 10);
+        due(x.of(0, 21), 5);
     }
 
     private static void keptChanges() {
