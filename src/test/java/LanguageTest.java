@@ -87,10 +87,10 @@ public final class LanguageTest {
                 while (end < lines.size() && !lines.get(end).equals(close)) {
                     end++;
                 }
-                must(end - begun <= 70, 11, k + 1, "a long method: " + (end - begun));
+                must(end - begun <= 60, 11, k + 1, "a long method: " + (end - begun));
             }
         }
-        must(classes <= 14, 11, 0, classes + " classes");
+        must(classes <= 12, 11, 0, classes + " classes");
         fields(lines);
     }
 
@@ -105,7 +105,7 @@ public final class LanguageTest {
                 && (line.matches("        [a-z].*") || line.matches("    [a-z].*"))) {
                 boolean ofClass = line.matches(" {4}\\S.*") || line.matches(" {8}\\S.*") && !inMethod(lines, k);
                 many += ofClass ? 1 : 0;
-                must(many <= 24, 11, k + 1, "some more than twenty fields");
+                must(many <= 20, 11, k + 1, "some more than twenty fields");
             }
         }
     }
